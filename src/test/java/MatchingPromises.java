@@ -64,6 +64,7 @@ public final class MatchingPromises {
         Checks.same("32 b c", x.possiblePairs('b', 'c'), 0);
         Checks.same("32 a c", x.possiblePairs('a', 'c'), 2);
         Checks.same("32 none", new RecordReconciler().possiblePairs('a', 'b'), 0);
+        Checks.same("32 none with a third source", Views.with("a1=3 c2=50 c3=3").possiblePairs('a', 'b'), 0);
         RecordReconciler most = Views.with(Views.row('a', 0, 1, 10, 50) + " " + Views.row('c', 10, 1, 10, 55));
         Checks.same("32 all with all", most.possiblePairs('a', 'c'), 100);
         RecordReconciler halves = Views.with(Views.row('a', 0, 1, 15, 50) + " " + Views.row('b', 15, 1, 15, 50));
@@ -100,8 +101,46 @@ public final class MatchingPromises {
             chain.append(" b").append(500 - 18 * i - 9).append("=").append(50);
         }
         bothSizes("long chain", Views.with(chain.toString()), 'a', 'b', 15);
+        reorderedToTheEnd();
+        deadEnds();
         RecordReconciler star = Views.with("a50=50 b40=50 b41=50 b42=50 b43=50 a60=50 a70=70 b71=70");
         bothSizes("stars", star, 'a', 'b', 3);
+    }
+
+    /**
+     * a0 to a5 go with two b's each and take the lower one first; a6 goes with the lowest b alone, so that all of
+     * them must change. In the other direction the last b makes all of them change.
+     */
+    private static void reorderedToTheEnd() {
+        StringBuilder records = new StringBuilder("a6=11");
+        for (int i = 0; i < 6; i++) {
+            records.append(" a").append(i).append("=").append(19 + 6 * i);
+        }
+        for (int i = 0; i < 7; i++) {
+            records.append(" b").append(7 + i).append("=").append(16 + 6 * i);
+        }
+        RecordReconciler x = Views.with(records.toString());
+        Checks.same("32 two for each but one", x.possiblePairs('a', 'b'), 13);
+        bothSizes("all must change", x, 'a', 'b', 7);
+        for (int i = 0; i < 7; i++) {
+            Checks.same("35 all are needed", x.isNeeded('a', i, 'b') && x.isNeeded('b', 7 + i, 'a'), true);
+        }
+        x.drop('b', 10);
+        bothSizes("the chain in two", x, 'a', 'b', 6);
+        Checks.same("35 on the side with too many", x.isNeeded('a', 0, 'b') || x.isNeeded('a', 6, 'b'), false);
+        Checks.same("35 on the side with too few", x.isNeeded('b', 7, 'a') && x.isNeeded('b', 9, 'a'), true);
+    }
+
+    /** a3 and a4 both want the place of a0; the search from the second one runs through all chains in vain. */
+    private static void deadEnds() {
+        RecordReconciler x = Views.with("a0=19 a1=25 a2=25 a3=11 a4=11 b10=16 b11=22 b12=28 b13=22");
+        bothSizes("dead ends", x, 'a', 'b', 4);
+        Checks.same("35 of two for one place", x.isNeeded('a', 3, 'b') || x.isNeeded('a', 4, 'b'), false);
+        Checks.same("35 the place", x.isNeeded('b', 10, 'a'), true);
+        x.drop('b', 13);
+        bothSizes("more dead ends", x, 'a', 'b', 3);
+        x.drop('b', 10);
+        bothSizes("without the place", x, 'a', 'b', 2);
     }
 
     private static void promises32To34WrongArguments() {
@@ -160,6 +199,8 @@ public final class MatchingPromises {
     }
 
     private static void promise38GroupSize() {
+        Checks.same("37 asked first", Views.with("a1=50 b15=50 c90=50").groupCountBySearch(), 2);
+        Checks.same("38 asked first", Views.with("a1=50 b15=50 c90=50").groupSize('b', 15), 2);
         RecordReconciler x = Views.with("a1=50 b15=50 c30=50 a45=50 b300=1 c300=2 a999=1");
         Checks.same("38 four", x.groupSize('a', 1), 4);
         Checks.same("38 four from within", x.groupSize('c', 30), 4);

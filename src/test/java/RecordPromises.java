@@ -99,6 +99,11 @@ public final class RecordPromises {
         x.drop('a', 9);
         Checks.same("22 after drops", x.oldestKey('a'), 3);
         Checks.same("22 the other source's", x.oldestKey('b'), 1);
+        Views.count(x, "b0=1 b9=1");
+        Checks.same("22 younger ones with lower and higher keys", x.oldestKey('b'), 1);
+        x.drop('b', 1);
+        Views.count(x, "b5=1");
+        Checks.same("22 the lowest key is the oldest", x.oldestKey('b'), 0);
         Checks.refused("22 no record", x, ELEMENT, () -> x.oldestKey('c'));
         Checks.refused("22 source", x, ARGUMENT, () -> x.oldestKey('d'));
     }
@@ -140,6 +145,7 @@ public final class RecordPromises {
         Checks.same("25 after settling", x.disputedCount(), 2);
         Checks.same("27 after settling", x.disputedAt(1), 999);
         Checks.same("25 ten keys", Views.full().disputedCount(), 10);
+        Checks.same("27 the lowest key of all", Views.full().disputedAt(0), 0);
         Checks.same("27 the tenth", Views.full().disputedAt(9), 270);
     }
 

@@ -116,6 +116,7 @@ public final class TextPromises {
         Checks.same("56 three", Views.run(x, "settle b17;drop a17;reject"), 3);
         Checks.same("56 state", Views.state(x), "day 9 batch records 1 trust 4 b17=41@0 trust 6 trust 5"
                 + " totals 2 0 0 1 1 1 1");
+        Checks.same("56 key 0", Views.run(x, "report a0=1;report a00=1;take a000=1;take a0=1"), 4);
         Checks.same("56 the most commands", Views.run(x, "close;close;close;close;close;close;close;close;close;close"),
                 10);
         Checks.same("56 the most commands", x.closedTotal(), 11);
@@ -204,6 +205,10 @@ public final class TextPromises {
         malformed("close; close", 6);
         malformed("report d1=1", 7);
         malformed("report A1=1", 7);
+        malformed("report 1=1", 7);
+        malformed("take 1=1", 5);
+        malformed("settle 1", 7);
+        malformed("drop 1", 5);
         malformed("report  a1=1", 7);
         malformed("report a=1", 8);
         malformed("report a1234=1", 11);

@@ -101,6 +101,12 @@ public final class TotalsPromises {
         Checks.same("49 a key counts once", x.confirmedShare(), 1.0f);
         Views.count(x, "a2=1 b2=2 c3=1");
         Checks.same("49 thirds", x.confirmedShare(), 1.0f / 3.0f);
+        x.drop('c', 3);
+        Checks.same("49 a dropped key does not count", x.confirmedShare(), 0.5f);
+        x.undo();
+        Checks.same("49 it counts again", x.confirmedShare(), 1.0f / 3.0f);
+        x.undo();
+        Checks.same("49 before the closing", x.confirmedShare(), 1.0f);
     }
 
     private static void promise50IsConsistent() {

@@ -45,24 +45,22 @@ public final class UndoPromises {
         RecordReconciler x = new RecordReconciler();
         Checks.refused("60 none", x, STATE, x::undo);
         Views.count(x, "a1=1 b1=2 c1=3 a2=2 b2=2");
+        x.drop('a', 2);
         x.report('a', 1, 5);
         x.report('a', 1, 5);
         x.report('c', 7, 5);
         x.undo();
-        x.report('c', 8, 5);
+        x.report('c', 8, 6);
+        x.report('b', 9, 7);
         undone("report", x, () -> x.report('b', 9, 9));
         undone("withdraw", x, () -> x.withdraw('a', 1, 5));
         undone("closeBatch", x, x::closeBatch);
         undone("rejectBatch", x, x::rejectBatch);
         undone("settle", x, () -> x.settle('b', 1));
-        undone("drop", x, () -> x.drop('a', 2));
-        undone("drop of a key's last record", x, () -> {
-            x.drop('a', 2);
-            x.undo();
-            return x.drop('b', 2);
-        });
+        undone("drop", x, () -> x.drop('a', 1));
+        undone("drop of a key's last record", x, () -> x.drop('b', 2));
         undone("pass", x, () -> x.pass(9));
-        undone("run", x, () -> Views.run(x, "drop b2;drop a2;close;settle c1;days 9"));
+        undone("run", x, () -> Views.run(x, "drop b2;drop a1;close;settle c1;days 9"));
     }
 
     private static void promise60UpToEight() {
