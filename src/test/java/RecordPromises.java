@@ -16,6 +16,7 @@ public final class RecordPromises {
         promises24To27Disputes();
         promises28And29Accepted();
         promise30TotalOf();
+        thirtyKeys();
         Checks.finish("RecordPromises");
     }
 
@@ -165,6 +166,20 @@ public final class RecordPromises {
         Checks.refused("28 no record", x, ELEMENT, () -> x.acceptedAmount(8));
         Checks.refused("28 below", x, ARGUMENT, () -> x.acceptedAmount(-1));
         Checks.refused("28 above", x, ARGUMENT, () -> x.acceptedAmount(1000));
+    }
+
+    /** The most keys that can be: the edges of what is asked by position. */
+    private static void thirtyKeys() {
+        RecordReconciler x = Views.with(Views.row('b', 0, 30, 30, 7));
+        Checks.same("21 the last of thirty", x.keyAt('b', 29), 870);
+        Checks.refused("21 behind thirty", x, INDEX, () -> x.keyAt('b', 30));
+        Checks.refused("27 thirty open keys", x, ELEMENT, () -> x.disputedAt(0));
+        Checks.same("26 thirty", x.openCount(), 30);
+        Checks.same("29 thirty", x.acceptedTotal(), 210);
+        x.drop('b', 870);
+        Checks.refused("23 the last of thirty dropped", x, ELEMENT, () -> x.statusOf(870));
+        x.drop('b', 0);
+        Checks.same("21 the first of thirty dropped", x.keyAt('b', 0) * 1000 + x.keyAt('b', 27), 30840);
     }
 
     private static void promise30TotalOf() {
