@@ -20,6 +20,10 @@ final class Checks {
         }
     }
 
+    static int made() {
+        return passed + failed;
+    }
+
     /** The call throws just this exception, and the object answers afterwards as it did before. */
     static void refused(String what, RecordReconciler x, Class<? extends Exception> due, Call call) {
         String before = Views.all(x);
