@@ -1,3 +1,5 @@
+import java.util.function.IntFunction;
+
 /** Sentences about arguments that many methods have in the same words: sources, keys, and amounts. */
 final class ArgumentBoundaries extends Boundary {
     private static final String SOURCE = "`source`: the source, 'a', 'b' or 'c'";
@@ -225,7 +227,7 @@ final class ArgumentBoundaries extends Boundary {
         });
     }
 
-    private static void ofKey(int promise, OfNumber call, java.util.function.IntFunction<Object> due) {
+    private static void ofKey(int promise, OfNumber call, IntFunction<Object> due) {
         test(promise, KEY, () -> {
             for (int key : KEYS) {
                 answers("" + key, ALL, due.apply(key), x -> call.ask(x, key));

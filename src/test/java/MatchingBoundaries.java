@@ -1,3 +1,5 @@
+import java.util.Random;
+
 /** Promises 31 to 38, and the terms' sentences about matching. */
 final class MatchingBoundaries extends Boundary {
     private static final String POSSIBLE = "A pair of a counted record of one source and one of another source is possible "
@@ -17,6 +19,10 @@ final class MatchingBoundaries extends Boundary {
     private static final Scene CROWD = counted(Views.row('a', 0, 1, 15, 50), Views.row('b', 15, 1, 15, 50));
     private static final Scene THIRTY_KEYS = counted(Views.row('b', 0, 1, 30, 50));
 
+    /** a0 to a5 go with two b's each, the lower of which they take first; a6 goes with the lowest b alone. */
+    private static final Scene REORDERED = counted("a0=19 a1=25 a2=31 a3=37 a4=43 a5=49 a6=11",
+            "b7=16 b8=22 b9=28 b10=34 b11=40 b12=46 b13=52");
+
     private MatchingBoundaries() {
     }
 
@@ -30,6 +36,7 @@ final class MatchingBoundaries extends Boundary {
         linked(36, RecordReconciler::groupCount);
         linked(37, RecordReconciler::groupCountBySearch);
         groupSize();
+        askedBefore();
         noRecord(35, (x, source, key) -> x.isNeeded(source, key, source == 'b' ? 'c' : 'b'));
         noRecord(38, RecordReconciler::groupSize);
         for (int promise : new int[] {32, 36, 37, 38}) {
@@ -97,6 +104,10 @@ final class MatchingBoundaries extends Boundary {
         answers("until it is dropped", shared.then(x -> x.drop('a', 11)), true, x -> x.isPossiblePair('a', 10, 'b', 11));
         answers("and again once that is undone", shared.then(x -> x.drop('a', 11)).then(RecordReconciler::undo), false,
                 x -> x.isPossiblePair('a', 10, 'b', 11));
+        for (int amount = 1; amount <= 6; amount++) {
+            answers("a record of a third source alone is no partner", counted("a10=" + amount + " c11=50 b12=90"), "0 0 0",
+                    x -> x.possiblePairs('a', 'b') + " " + x.possiblePairs('b', 'a') + " " + x.matchingSize('a', 'b'));
+        }
         answers("not in the open batch", counted("a10=50 b11=50").then(reported("a11=99 b10=99")), true,
                 x -> x.isPossiblePair('a', 10, 'b', 11));
     }
@@ -150,6 +161,8 @@ final class MatchingBoundaries extends Boundary {
     private static void size(String what, Scene scene, OfTwo call, int due) {
         answers(what, scene, due, x -> call.ask(x, 'a', 'b'));
         answers(what + ", other way round", scene, due, x -> call.ask(x, 'b', 'a'));
+        answers(what + ", again and again", scene, due + " " + due + " " + due + " " + due, x -> call.ask(x, 'a', 'b') + " "
+                + call.ask(x, 'a', 'b') + " " + call.ask(x, 'b', 'a') + " " + call.ask(x, 'b', 'a'));
     }
 
     private static void matching(int promise, OfTwo call) {
@@ -176,6 +189,13 @@ final class MatchingBoundaries extends Boundary {
             size("a chain without its ends", CHAIN.then(x -> x.drop('b', 580)).then(x -> x.drop('a', 0)), call, 14);
             size("a crowd of thirty", CROWD, call, 15);
             size("a crowd of 29", CROWD.then(x -> x.drop('a', 7)), call, 14);
+            size("the last one makes all others change", REORDERED, call, 7);
+            size("chains of which each takes a round more", rounds(), call, 15);
+            size("the last one can't make them change", REORDERED.then(x -> x.drop('b', 13)), call, 6);
+            for (int seed = 0; seed < 150; seed++) {
+                Scene scene = scattered(new Random(seed));
+                size("scattered " + seed, scene, call, greatest(at(scene)));
+            }
         });
         test(promise, returns, () -> {
             size("no records", EMPTY, call, 0);
@@ -189,6 +209,61 @@ final class MatchingBoundaries extends Boundary {
             }
             unchanged("asking", busy(CROWD), x -> call.ask(x, 'a', 'b'));
         });
+    }
+
+    /** Five chains like REORDERED, in which 0, 1, 2, 3 and 4 a's must change for the last one. */
+    private static Scene rounds() {
+        StringBuilder records = new StringBuilder();
+        for (int length = 0; length < 5; length++) {
+            for (int i = 0; i <= length; i++) {
+                records.append(" a").append(100 * length + i).append('=').append(i < length ? 19 + 6 * i : 11);
+                records.append(" b").append(100 * length + 7 + i).append('=').append(16 + 6 * i);
+            }
+        }
+        return counted(records.substring(1));
+    }
+
+    /** 30 records of a and b with different keys, so that some have many possible pairs and some have few. */
+    private static Scene scattered(Random random) {
+        int gaps = 1 + random.nextInt(5);
+        int amounts = 5 + random.nextInt(40);
+        int others = 5 + random.nextInt(10);
+        StringBuilder records = new StringBuilder();
+        int key = 0;
+        for (int i = 0; i < 30; i++) {
+            char source = random.nextInt(30 - i) < others ? 'b' : 'a';
+            others -= source == 'b' ? 1 : 0;
+            key += 1 + random.nextInt(gaps);
+            records.append(i > 0 ? " " : "").append(source).append(key).append('=').append(1 + random.nextInt(amounts));
+        }
+        return counted(records.toString());
+    }
+
+    /** Goes through all sets of b's, and finds those that can be matched with a's of the rows so far. */
+    private static int greatest(RecordReconciler x) {
+        boolean[] canBeMatched = new boolean[1 << x.recordsOf('b')];
+        canBeMatched[0] = true;
+        for (int i = 0; i < x.recordsOf('a'); i++) {
+            int reach = reach(x, x.keyAt('a', i));
+            for (int set = canBeMatched.length - 1; set > 0; set--) {
+                for (int rest = set & reach; rest != 0 && !canBeMatched[set]; rest &= rest - 1) {
+                    canBeMatched[set] = canBeMatched[set ^ rest & -rest];
+                }
+            }
+        }
+        int greatest = 0;
+        for (int set = 0; set < canBeMatched.length; set++) {
+            greatest = canBeMatched[set] ? Math.max(greatest, Integer.bitCount(set)) : greatest;
+        }
+        return greatest;
+    }
+
+    private static int reach(RecordReconciler x, int key) {
+        int reach = 0;
+        for (int i = 0; i < x.recordsOf('b'); i++) {
+            reach |= x.isPossiblePair('a', key, 'b', x.keyAt('b', i)) ? 1 << i : 0;
+        }
+        return reach;
     }
 
     private static void needed(String what, Scene scene, String neededOfA, String neededOfB) {
@@ -287,5 +362,80 @@ final class MatchingBoundaries extends Boundary {
                     x -> x.groupSize('a', 1));
             unchanged("asking", busy(CROWD), x -> x.groupSize('a', 14));
         });
+    }
+
+    private static String ofPairs(RecordReconciler x, OfTwo call) {
+        StringBuilder text = new StringBuilder();
+        for (String pair : "ab ba ac ca bc cb".split(" ")) {
+            text.append(' ').append(call.ask(x, pair.charAt(0), pair.charAt(1)));
+        }
+        return text.toString();
+    }
+
+    private static String ofRecords(RecordReconciler x, OfRecord call) {
+        StringBuilder text = new StringBuilder();
+        for (char source : SOURCES) {
+            for (int i = 0; i < x.recordsOf(source); i += 4) {
+                text.append(' ').append(call.ask(x, source, x.keyAt(source, i)));
+            }
+        }
+        return text.toString();
+    }
+
+    /** What was asked before, in this state or in another one, does not matter. */
+    private static void askedBefore() {
+        asked(32, "Returns the number of possible pairs of two sources.", x -> ofPairs(x, RecordReconciler::possiblePairs));
+        asked(33, "Returns the matching size of two sources, by augmenting a matching for one record after the other.",
+                x -> ofPairs(x, RecordReconciler::matchingSize));
+        asked(34, "Returns the same number as matchingSize, but augments a matching in rounds, by shortest paths that are "
+                + "found in layers.", x -> ofPairs(x, RecordReconciler::matchingSizeByLayers));
+        asked(35, "Returns whether the matching size of two sources would be smaller without a counted record of the first "
+                + "one, where nothing else differs.",
+                x -> ofRecords(x, (y, source, key) -> y.isNeeded(source, key, source == 'b' ? 'a' : 'b')));
+        asked(36, "Returns the number of groups, by uniting linked records.", RecordReconciler::groupCount);
+        asked(37, "Returns the same number as groupCount, by searching from records that were not reached before.",
+                RecordReconciler::groupCountBySearch);
+        asked(38, "Returns the number of records in the group of a counted record.",
+                x -> ofRecords(x, RecordReconciler::groupSize));
+    }
+
+    private static void asked(int promise, String sentence, Question question) {
+        Scene ends = x -> {
+            for (int key = 1; key < 29; key++) {
+                x.drop(key < 15 ? 'a' : 'b', key);
+            }
+        };
+        Scene everyFifth = x -> {
+            for (int i = 2; i >= 0; i--) {
+                x.drop('a', x.keyAt('a', 5 * i));
+                x.drop('b', x.keyAt('b', 4 * i));
+            }
+        };
+        Scene third = counted("c3=50 c12=52 c14=54 c580=50 c45=49");
+        Scene fewer = everyFifth.then(third);
+        test(promise, sentence, () -> {
+            askedBetween("all but two dropped", CROWD, ends, question);
+            askedBetween("that undone", CROWD.then(everyFifth), RecordReconciler::undo, question);
+            askedBetween("other sources in a crowd", CROWD, fewer, question);
+            askedBetween("other sources in a chain", CHAIN, fewer, question);
+            askedBetween("other sources taken away", CHAIN.then(fewer), RecordReconciler::undo, question);
+            askedBetween("nothing", REORDERED.then(third), EMPTY, question);
+            askedBetween("an empty object restored", EMPTY.then(RecordReconciler::save).then(CROWD),
+                    RecordReconciler::restore, question);
+            askedBetween("the first records", EMPTY, REORDERED.then(third), question);
+        });
+    }
+
+    private static void askedBetween(String what, Scene before, Scene change, Question question) {
+        Scene asked = x -> {
+            question.ask(x);
+            ofPairs(x, RecordReconciler::matchingSize);
+            ofPairs(x, RecordReconciler::matchingSizeByLayers);
+            x.groupCount();
+            x.groupCountBySearch();
+            x.isConsistent();
+        };
+        same(what, outcome(before.then(asked).then(change), question), outcome(before.then(change), question));
+        same(what + ", asked twice", outcome(before.then(change).then(asked), question), outcome(before.then(change), question));
     }
 }

@@ -87,6 +87,13 @@ final class RecordBoundaries extends Boundary {
             answers("corrected by nothing", counted("b17=1", "b17=1"), 0, x -> x.dayOf('b', 17));
             answers("corrected to and fro", counted("b17=1", "b17=2 b17=1"), 1, x -> x.dayOf('b', 17));
             answers("settled", counted("a17=2", "b17=1").then(x -> x.settle('b', 17)), 0, x -> x.dayOf('a', 17));
+            Scene late = counted("a0=1", "b18=1", "c500=1", "b999=1");
+            answers("with lower keys that come", late.then(counted("b17=1 a1=1")), "1 2 3",
+                    x -> x.dayOf('b', 18) + " " + x.dayOf('c', 500) + " " + x.dayOf('b', 999));
+            answers("with lower keys that go", late.then(x -> x.drop('a', 0)), "1 2 3",
+                    x -> x.dayOf('b', 18) + " " + x.dayOf('c', 500) + " " + x.dayOf('b', 999));
+            answers("of the first of thirty", counted("c0=5").then(x -> x.drop('c', 0)).then(THIRTY_KEYS), "1 3",
+                    x -> x.dayOf('b', 0) + " " + x.dayOf('b', 870));
             answers("dropped and counted anew", counted("b17=1").then(x -> x.drop('b', 17)).then(counted("b17=1")), 1,
                     x -> x.dayOf('b', 17));
         });

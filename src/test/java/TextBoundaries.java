@@ -438,6 +438,20 @@ final class TextBoundaries extends Boundary {
                         x -> Checks.outcome(x::run) + " " + x.errorPosition());
             }
         });
+        test(56, "The buffer is empty afterwards, even if an exception is thrown.", () -> {
+            for (String longer : new String[] {"report a12=34;close", "take b9=9;close", "settle a1;drop a1", "drop c17;days 5",
+                "days 99;reject", "close;close", "reject;reject"}) {
+                for (int i = 0; i < longer.length(); i++) {
+                    String start = longer.substring(0, i);
+                    String due = outcomeOfModel(start);
+                    answers("'" + start + "' after '" + longer + "'", ran(longer), due, x -> {
+                        Views.type(x, start);
+                        String ended = Checks.outcome(x::run);
+                        return due.contains(" IllegalArgument") ? ended + " " + x.errorPosition() : ended;
+                    });
+                }
+            }
+        });
         test(56, "Returns the number of commands.", () -> {
             for (int number = 1; number <= 10; number++) {
                 answers("" + number, typed("close;".repeat(number).substring(0, 6 * number - 1)), number,

@@ -12,6 +12,7 @@ final class TotalsBoundaries extends Boundary {
         droppedAndSettled();
         mean();
         share();
+        eachByItself();
         consistent();
         plain(0, "Trust.");
         plain(40, "Returns the source.");
@@ -74,6 +75,8 @@ final class TotalsBoundaries extends Boundary {
             settledKey("a17=40 b17=41 c17=40", 'c', "40 40 40 546");
             settledKey("a17=40 b17=41 c17=39", 'c', "39 39 39 446");
             settledKey("b17=1 c17=99", 'b', "- 1 1 564");
+            settledKey("b17=1 c17=99", 'c', "- 99 99 546");
+            settledKey("a17=1 b17=1 c17=2", 'c', "2 2 2 446");
             settledKey("a17=99 c17=98 a16=1 b16=2 b18=3 c18=4", 'c', "98 - 98 456");
             Scene key = counted("a17=40 b17=41 c17=42");
             answers("at 9 and 0", settled('a', 'b', 0, 5).then(key).then(x -> x.settle('a', 17)), "904",
@@ -215,6 +218,38 @@ final class TotalsBoundaries extends Boundary {
         });
     }
 
+    private static String totals(RecordReconciler x) {
+        return "" + x.duplicateTotal() + x.correctionTotal() + x.newTotal() + x.droppedTotal() + x.closedTotal()
+                + x.rejectedTotal() + x.settledTotal();
+    }
+
+    /** From 0 to 1 and then to 2 each total goes without the other ones, but for the closed batches. */
+    private static void eachByItself() {
+        Scene scene = counted("a1=1 b1=2 a2=1 b2=2");
+        String[] sentences = {"Returns the number of duplicates in all closed batches so far.",
+            "Returns the number of corrections in all closed batches so far.",
+            "Returns the number of new records in all closed batches so far.",
+            "Returns the number of counted records that have been removed so far.",
+            "Returns the number of batches that have been closed so far.",
+            "Returns the number of batches that have been rejected so far.",
+            "Returns the number of disputes that have been settled so far."};
+        Scene[] once = {counted("a1=1"), counted("b2=9"), counted("c3=1"), x -> x.drop('a', 1), RecordReconciler::closeBatch,
+            RecordReconciler::rejectBatch, x -> x.settle('a', 1)};
+        Scene[] again = {counted("b2=2"), counted("a1=9"), counted("c4=1"), x -> x.drop('b', 2), RecordReconciler::closeBatch,
+            RecordReconciler::rejectBatch, x -> x.settle('b', 2)};
+        String[] due = {"1040200 2040300", "0140200 0240300", "0050200 0060300", "0041100 0042100", "0040200 0040300",
+            "0040110 0040120", "0040101 0040102"};
+        for (int i = 0; i < 7; i++) {
+            Scene first = scene.then(once[i]);
+            Scene second = first.then(again[i]);
+            String both = due[i];
+            test(41 + i, sentences[i], () -> {
+                answers("no other total with the first", first, both.substring(0, 7), TotalsBoundaries::totals);
+                answers("no other total with the second", second, both.substring(8), TotalsBoundaries::totals);
+            });
+        }
+    }
+
     private static void mean() {
         test(48, "Returns the mean amount of the counted records: the sum, converted to double, divided by their number.",
                 () -> {
@@ -225,6 +260,10 @@ final class TotalsBoundaries extends Boundary {
             answers("sevenths", counted("a0=1 b0=1 c0=2 a1=5 b1=7 c2=11 a3=3"), 30.0 / 7.0, RecordReconciler::meanAmount);
             answers("all but one of thirty", counted(Views.row('a', 0, 1, 29, 99), "b0=1"), 2872.0 / 30.0,
                     RecordReconciler::meanAmount);
+            for (int number = 1; number <= 30; number++) {
+                answers("of " + number, counted(Views.row('b', 0, 1, number, 1), "b0=99"), (double) (98 + number) / number,
+                        RecordReconciler::meanAmount);
+            }
             answers("records, not keys", counted("a0=9 b0=9 c1=3"), 7.0, RecordReconciler::meanAmount);
         });
         plain(48, "Returns the mean.");
@@ -257,6 +296,12 @@ final class TotalsBoundaries extends Boundary {
                     RecordReconciler::confirmedShare);
             answers("fifteen of fifteen", counted(Views.row('a', 0, 1, 15, 99), Views.row('b', 0, 1, 15, 99)), 1.0f,
                     RecordReconciler::confirmedShare);
+            for (int keys = 1; keys < 30; keys++) {
+                for (int confirmed = 1; confirmed <= keys && confirmed + keys <= 30; confirmed++) {
+                    answers(confirmed + " of " + keys, counted(Views.row('a', 0, 1, keys, 99),
+                            Views.row('b', 0, 1, confirmed, 99)), (float) confirmed / keys, RecordReconciler::confirmedShare);
+                }
+            }
             answers("fourteen of fifteen", counted(Views.row('a', 0, 1, 15, 99), Views.row('b', 0, 1, 14, 99)),
                     14.0f / 15.0f, RecordReconciler::confirmedShare);
         });

@@ -202,6 +202,13 @@ final class UndoBoundaries extends Boundary {
                     Views.state(at(everything.then(days(1)))), Views::state);
             same("saving changes nothing else", whole(everything.then(RecordReconciler::save)).replaceAll("(?s)\nrestored.*",
                     ""), whole(everything).replaceAll("(?s)\nrestored.*", ""));
+            answers("not the buffer, which stays as it is", typed("da").then(RecordReconciler::save).then(typed("ys 7"))
+                    .then(RecordReconciler::restore), "1 7", x -> x.run() + " " + x.day());
+            answers("not the indices", RecordReconciler::save, "throws IllegalArgumentException 2 0", x -> {
+                String ended = Checks.outcome(() -> Views.run(x, "da"));
+                x.restore();
+                return ended + " " + x.errorPosition() + " " + x.undoableCount();
+            });
             answers("not what is no change: the line", everything.then(x -> x.formatKey(1)).then(RecordReconciler::save)
                     .then(x -> x.formatKey(2)).then(RecordReconciler::restore), "2: a5 b4 disputed ~4", Views::line);
         });
@@ -307,6 +314,7 @@ final class UndoBoundaries extends Boundary {
             refused("drop", open, ARGUMENT, x -> x.drop('d', 18));
             refused("drop", open, ELEMENT, x -> x.drop('a', 18));
             refused("keyAt", open, ARGUMENT, x -> x.keyAt('d', 1));
+            refused("keyAt", open, ARGUMENT, x -> x.keyAt('d', -1));
             refused("keyAt", open, INDEX, x -> x.keyAt('a', 1));
             refused("isPossiblePair", open, ARGUMENT, x -> x.isPossiblePair('b', 17, 'b', 18));
             refused("isPossiblePair", open, ARGUMENT, x -> x.isPossiblePair('b', 17, 'a', -1));
